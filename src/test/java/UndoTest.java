@@ -1,0 +1,135 @@
+/** Promise 15: undo. */
+final class UndoTest {
+    private static final Class<IllegalStateException> STATE = IllegalStateException.class;
+
+    public static void main(String[] args) {
+        sixStates();
+        allIsRestored();
+        whatIsNotSaved();
+        Due.end();
+    }
+
+    private static void sixStates() {
+        GreenMachines machine = new GreenMachines();
+        for (int phase = 0; phase < 8; phase++) {
+            machine.addPhase(phase, 1);
+        }
+        for (int left = 5; left >= 0; left--) {
+            Due.same("undo() with left", machine.undo(), left);
+            Due.same("phases then", machine.count(0), 2 + left);
+        }
+        Due.thrown(machine, "undo() without a state", STATE, machine::undo);
+        Due.same("the oldest ones are dropped", machine.count(0), 2);
+        machine.clash(0, 1);
+        machine.clash(0, 2);
+        Due.same("undo() among new ones", machine.undo(), 1);
+        machine.clash(0, 3);
+        Due.same("0 clashes with", machine.direction(0, 2), 0b001010);
+        Due.same("undo()", machine.undo(), 1);
+        Due.same("undo() of the first", machine.undo(), 0);
+        Due.same("0 clashes with none", machine.direction(0, 2), 0);
+    }
+
+    /** Each undoable call, and the digest before it comes again, but for the saved states. */
+    private static void allIsRestored() {
+        GreenMachines machine = Due.built("p0*2;p1*3;p24*1;r0>1?1;r0>2;r1>2?2;r1>0;r2>0;x02");
+        machine.come(1);
+        machine.run(3);
+        for (int step = 0; step < 60; step++) {
+            long before = looks(machine);
+            act(machine, step);
+            machine.undo();
+            Due.same("undo() of step " + step, looks(machine), before);
+            act(machine, step);
+        }
+    }
+
+    private static void act(GreenMachines machine, int step) {
+        int phases = machine.count(0);
+        switch (step % 10) {
+            case 0:
+                machine.clash(step % 3, 3 + step % 2);
+                break;
+            case 1:
+                machine.come(step / 10);
+                break;
+            case 2:
+                machine.run(1 + step / 10);
+                break;
+            case 3:
+                machine.change(step % phases, step, 1 + step % 9);
+                break;
+            case 4:
+                machine.set(step % 6);
+                break;
+            case 5:
+                machine.dropRule(0);
+                break;
+            case 6:
+                machine.addRule(0, 1 + step / 10 % 2, step % 7);
+                break;
+            case 7:
+                machine.run(17);
+                break;
+            case 8:
+                Due.type(machine, "p135*4;x03;r2>3");
+                machine.build();
+                break;
+            default:
+                machine.start(step % phases);
+                break;
+        }
+    }
+
+    /** All that can be seen but the saved states, which an undo() drops. */
+    private static long looks(GreenMachines machine) {
+        long hash = 7;
+        for (int what = 0; what <= 10; what++) {
+            hash = hash * 31 + machine.count(what);
+        }
+        for (int direction = 0; direction < 6; direction++) {
+            for (int what = 0; what <= 5; what++) {
+                hash = hash * 31 + machine.direction(direction, what);
+            }
+        }
+        for (int phase = 0; phase < machine.count(0); phase++) {
+            for (int what = 0; what <= 5; what++) {
+                hash = hash * 31 + machine.phase(phase, what);
+            }
+            for (int rule = 0; rule < machine.phase(phase, 2); rule++) {
+                hash = hash * 31 + machine.rule(phase, rule, 0);
+                hash = hash * 31 + machine.rule(phase, rule, 1);
+            }
+            for (int direction = 0; direction < 6; direction++) {
+                hash = hash * 31 + machine.waitFor(direction, phase, false);
+                hash = hash * 31 + machine.waitFor(direction, phase, true);
+            }
+        }
+        return hash;
+    }
+
+    private static void whatIsNotSaved() {
+        GreenMachines machine = new GreenMachines();
+        machine.addPhase(1, 1);
+        Due.type(machine, "p1");
+        Due.same("undo() leaves the buffer", machine.undo(), 0);
+        Due.same("its length", machine.clearBuffer(), 2);
+        machine.addPhase(1, 1);
+        machine.phase(0, 0);
+        machine.direction(0, 0);
+        machine.count(0);
+        machine.starves(0, 0);
+        machine.rounds(0);
+        machine.waitFor(0, 0, true);
+        machine.slowest();
+        machine.remedy(0, 0);
+        machine.safeShare();
+        machine.digest();
+        machine.firstError();
+        Due.same("looks are not saved", machine.count(11), 1);
+        Due.thrown(machine, "addPhase(64, 1)", IllegalArgumentException.class, () -> machine.addPhase(64, 1));
+        Due.same("a call that throws is not saved", machine.count(11), 1);
+        Due.same("come() where somebody waits", machine.come(0) + machine.come(0), 0);
+        Due.same("is saved, though it changes nothing", machine.count(11), 3);
+    }
+}
