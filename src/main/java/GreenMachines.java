@@ -425,7 +425,7 @@ public final class GreenMachines {
         return (exponent << 52) | (long) ((rest - 1.0) * 4503599627370496.0);
     }
 
-    /** Numbers in a row: the one place where an array is used, so that each index is tested. */
+    /** Numbers in a row: the one place where an array of them is used, so that each index is tested. */
     private static final class Row {
         private final int[] cells;
 

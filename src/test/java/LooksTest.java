@@ -119,6 +119,12 @@ final class LooksTest {
     private static void countPhases() {
         GreenMachines machine = Due.built("p02*1;p1*1;p23*1;p02*1;r0>1;r2>3;x02;x23");
         checkCounts(machine, "count", new int[] {4, 0, 0, 0, 5, 0, 3, 2, 1, 0, 0b111101, 1});
+        machine.start(2);
+        checkCounts(machine, "count from 2", new int[] {4, 2, 0, 0, 12, 0, 3, 2, 2, 0, 0b111010, 2});
+        machine.clash(2, 3);
+        machine.clash(1, 3);
+        checkCounts(machine, "count from 2 with other clashes",
+                new int[] {4, 2, 0, 0, 12, 0, 2, 2, 1, 0, 0b111010, 4});
         Due.thrown(machine, "count(12)", ARGUMENT, () -> machine.count(12));
         Due.thrown(machine, "count(-1)", ARGUMENT, () -> machine.count(-1));
     }

@@ -12,6 +12,7 @@ final class ProofsTest {
         waysThroughGreen();
         sameGreens();
         branches();
+        nothingIsKept();
         remedyMindsWhatCanCome();
         slowest();
         safeShare();
@@ -130,6 +131,22 @@ final class ProofsTest {
         chain.addRule(7, 0, 0);
         Due.same("the longest round, back", chain.waitFor(1, 7, true), 42);
         Due.same("the longest round, rounds", chain.rounds(3), 255);
+    }
+
+    /** After a change the proofs are those of the machine as it is then. */
+    private static void nothingIsKept() {
+        GreenMachines machine = Due.built("p0*1;p1*9;r0>1;r1>0");
+        Due.same("before: longest", machine.waitFor(0, 1, true), 11);
+        machine.change(1, 0b000011, 9);
+        check(machine, "after", 0, 0, new int[][] {{0, 0, 0, -1}, {0, 0, 0, -1}});
+        Due.same("after: slowest()", machine.slowest(), 1);
+        machine.dropRule(0);
+        check(machine, "without a rule", 1, 1, new int[][] {{1, -1, -1, 1}, {0, 0, 0, -1}});
+        machine.start(1);
+        machine.dropRule(1);
+        Due.same("the round cannot come", machine.rounds(1), 0);
+        Due.same("but from it somebody can starve", machine.starves(1, 0), 1);
+        Due.same("remedy() is for what can come", machine.remedy(1, 0), -1);
     }
 
     /** The goal 1 would help from 0, but lets 2 come, from where the direction can starve. */

@@ -5,6 +5,8 @@ final class UndoTest {
     public static void main(String[] args) {
         sixStates();
         allIsRestored();
+        rulesAreRestored();
+        clearingIsRestored();
         whatIsNotSaved();
         Due.end();
     }
@@ -106,6 +108,27 @@ final class UndoTest {
             }
         }
         return hash;
+    }
+
+    private static void rulesAreRestored() {
+        GreenMachines machine = Due.built("p0*1;p1*1;p2*1;r0>1?3");
+        machine.dropRule(0);
+        machine.addRule(0, 2, 32);
+        Due.same("the new goal", machine.rule(0, 0, 0), 2);
+        machine.undo();
+        machine.undo();
+        Due.same("the goal from before", machine.rule(0, 0, 0), 1);
+        Due.same("the askers from before", machine.rule(0, 0, 1), 8);
+    }
+
+    private static void clearingIsRestored() {
+        GreenMachines machine = Due.built("p01*1;p03*1;p3*1;r0>1;r1>2");
+        machine.run(1);
+        Due.same("clears from 0 to 1, with the greens", machine.count(4), 0b000001);
+        machine.run(3);
+        Due.same("clears from 1 to 2, with the greens", machine.count(4), 0b001000);
+        machine.undo();
+        Due.same("clears from 0 to 1 again, with the greens", machine.count(4), 0b000001);
     }
 
     private static void whatIsNotSaved() {
