@@ -1,8 +1,17 @@
+import java.lang.reflect.InvocationTargetException;
+import java.lang.reflect.Method;
+import java.lang.reflect.Modifier;
+
 /** Long runs of calls, the same on the program and on the naive crossing: all answers are the same. */
 final class NaiveTest {
     private static final int RUNS = 120;
     private static final int CALLS = 300;
     private static final int DIGEST_EACH = 9;
+    private static final int TEXT = 11;
+    private static final String[] CALLS_BY_KIND = {"clash", "addPhase", "addRule", "dropRule", "change", "set",
+        "come", "run", "run", "start", "append", "a whole text", "firstError", "build", "undo", "phase", "rule",
+        "direction", "count", "starves", "rounds", "waitFor", "waitFor", "slowest", "remedy", "safeShare",
+        "digest", "clearBuffer", "come", "come", "build"};
 
     private long seed;
 
@@ -35,7 +44,7 @@ final class NaiveTest {
             furnish(machine, naive, run);
         }
         for (int call = 0; call < CALLS; call++) {
-            int kind = below(30);
+            int kind = below(CALLS_BY_KIND.length);
             int[] numbers = numbers(kind, machine.count(0));
             String name = "run " + run + ", call " + call + " of kind " + kind + " with "
                     + numbers[0] + ", " + numbers[1] + ", " + numbers[2];
@@ -61,6 +70,7 @@ final class NaiveTest {
         }
     }
 
+    /** Arguments that are in range mostly, for the call of this kind. */
     private int[] numbers(int kind, int phases) {
         switch (kind) {
             case 0:
@@ -111,92 +121,64 @@ final class NaiveTest {
         }
     }
 
-    private static String order(int[] numbers) {
-        int one = numbers[1] % 8;
-        int other = numbers[2] % 8;
-        String[] orders = {"p" + one + "*" + (1 + other), "r" + one + ">" + other, "r" + one + ">" + other + "?" + one,
-            "x" + one + other, "r" + one + ">" + other + "?0" + other, "p*" + other};
-        String end = numbers[1] % 3 == 0 ? ";" : "";
-        return orders[numbers[2] % orders.length] + end;
+    /** A text of up to nine orders, most of them well written. */
+    private static String text(int[] numbers) {
+        StringBuilder text = new StringBuilder();
+        int orders = 1 + numbers[1] % 9;
+        for (int order = 0; order < orders; order++) {
+            int one = (numbers[1] + 3 * order) % 6;
+            int other = (numbers[2] / 7 + order * order) % 8;
+            String[] kinds = {"p" + one + "*" + (1 + other), "r" + one + ">" + other,
+                "r" + one + ">" + other + "?" + one, "x0" + (1 + other % 5), "p1*" + (1 + one),
+                "r" + other + ">" + one + "?0" + (1 + one)};
+            text.append(order == 0 ? "" : ";").append(kinds[(numbers[2] + order * one) % kinds.length]);
+        }
+        return text.toString();
     }
 
-    private static long ask(GreenMachines x, int kind, int[] n) {
-        switch (kind) {
-            case 0: return x.clash(n[0], n[1]);
-            case 1: return x.addPhase(n[0], n[1]);
-            case 2: return x.addRule(n[0], n[1], n[2]);
-            case 3: return x.dropRule(n[0]);
-            case 4: return x.change(n[0], n[1], n[2]);
-            case 5: return x.set(n[0]);
-            case 6: return x.come(n[0]);
-            case 7:
-            case 8: return x.run(n[0]);
-            case 9: return x.start(n[0]);
-            case 10: return x.append(n[0]);
-            case 11: {
-                long hash = 0;
-                for (char sign : order(n).toCharArray()) {
-                    hash = hash * 31 + x.append(sign);
-                }
-                return hash;
+    private static long ask(Object x, int kind, int[] numbers) {
+        if (kind == TEXT) {
+            long hash = call(x, "clearBuffer", numbers);
+            for (char sign : text(numbers).toCharArray()) {
+                hash = hash * 31 + call(x, "append", new int[] {sign});
             }
-            case 12: return n[2] == 0 ? x.clearBuffer() : x.firstError();
-            case 13: return x.build();
-            case 14: return x.undo();
-            case 15: return x.phase(n[0], n[1]);
-            case 16: return x.rule(n[0], n[1], n[2]);
-            case 17: return x.direction(n[0], n[1]);
-            case 18: return x.count(n[0]);
-            case 19: return x.starves(n[0], n[1]);
-            case 20: return x.rounds(n[0]);
-            case 21:
-            case 22: return x.waitFor(n[0], n[1], n[2] == 1);
-            case 23: return x.slowest();
-            case 24: return x.remedy(n[0], n[1]);
-            case 25: return Double.doubleToLongBits(x.safeShare());
-            case 26: return x.digest();
-            case 27: return x.firstError();
-            default: return x.come(n[0]);
+            return hash;
         }
+        return call(x, CALLS_BY_KIND[kind], numbers);
     }
 
-    private static long ask(NaiveCrossing x, int kind, int[] n) {
-        switch (kind) {
-            case 0: return x.clash(n[0], n[1]);
-            case 1: return x.addPhase(n[0], n[1]);
-            case 2: return x.addRule(n[0], n[1], n[2]);
-            case 3: return x.dropRule(n[0]);
-            case 4: return x.change(n[0], n[1], n[2]);
-            case 5: return x.set(n[0]);
-            case 6: return x.come(n[0]);
-            case 7:
-            case 8: return x.run(n[0]);
-            case 9: return x.start(n[0]);
-            case 10: return x.append(n[0]);
-            case 11: {
-                long hash = 0;
-                for (char sign : order(n).toCharArray()) {
-                    hash = hash * 31 + x.append(sign);
+    /** Both classes have the face's methods by the same names; a boolean is told by the last number. */
+    private static long call(Object x, String name, int[] numbers) {
+        try {
+            for (Method method : x.getClass().getDeclaredMethods()) {
+                boolean taken = !Modifier.isPrivate(method.getModifiers()) && method.getName().equals(name);
+                if (taken) {
+                    Object answer = method.invoke(x, arguments(method, numbers));
+                    return answer instanceof Double
+                            ? Double.doubleToLongBits((Double) answer) : ((Number) answer).longValue();
                 }
-                return hash;
             }
-            case 12: return n[2] == 0 ? x.clearBuffer() : x.firstError();
-            case 13: return x.build();
-            case 14: return x.undo();
-            case 15: return x.phase(n[0], n[1]);
-            case 16: return x.rule(n[0], n[1], n[2]);
-            case 17: return x.direction(n[0], n[1]);
-            case 18: return x.count(n[0]);
-            case 19: return x.starves(n[0], n[1]);
-            case 20: return x.rounds(n[0]);
-            case 21:
-            case 22: return x.waitFor(n[0], n[1], n[2] == 1);
-            case 23: return x.slowest();
-            case 24: return x.remedy(n[0], n[1]);
-            case 25: return Double.doubleToLongBits(x.safeShare());
-            case 26: return x.digest();
-            case 27: return x.firstError();
-            default: return x.come(n[0]);
+        } catch (InvocationTargetException thrown) {
+            if (thrown.getCause() instanceof RuntimeException) {
+                throw (RuntimeException) thrown.getCause();
+            }
+            throw new AssertionError(thrown);
+        } catch (IllegalAccessException thrown) {
+            throw new AssertionError(thrown);
         }
+        throw new AssertionError("there is no method " + name);
+    }
+
+    private static Object[] arguments(Method method, int[] numbers) {
+        Class<?>[] types = method.getParameterTypes();
+        Object[] arguments = new Object[types.length];
+        for (int place = 0; place < types.length; place++) {
+            if (types[place] == boolean.class) {
+                arguments[place] = numbers[place] == 1;
+            } else {
+                arguments[place] = numbers[place];
+            }
+        }
+        return arguments;
     }
 }
