@@ -1,6 +1,14 @@
 /** Promise 26: the digest, computed anew from the other calls of the face. */
 final class DigestTest {
     public static void main(String[] args) {
+        checkBuffer();
+        checkBuilt();
+        checkShares();
+        checkLongRun();
+        Due.end();
+    }
+
+    private static void checkBuffer() {
         GreenMachines machine = new GreenMachines();
         check(machine, "new", 2, "");
         Due.type(machine, "p0");
@@ -8,39 +16,46 @@ final class DigestTest {
         machine.clearBuffer();
         machine.set(4);
         check(machine, "with other ticks of clearing", 4, "");
-        Due.type(machine, "p05*9;p*1;p012*4;r0>1;r0>2?05;x01;r2>0?4;r1>2?13");
-        machine.build();
-        check(machine, "built", 4, "");
-        checkShares();
-        checkLongRun();
-        Due.end();
+    }
+
+    private static void checkBuilt() {
+        check(Due.built("p05*9;p*1;p012*4;r0>1;r0>2?05;x01;r2>0?4;r1>2?13"), "built", 2, "");
+        check(Due.built("p5*1;p*1;p1*1;p2*1;p3*1;p4*1;p0*1;p01*9;r0>1;r1>2;r2>0"), "built of 8", 2, "");
     }
 
     private static void checkShares() {
-        GreenMachines machine = new GreenMachines();
-        machine.clash(4, 5);
         for (int phases = 1; phases <= 8; phases++) {
-            machine.addPhase(63, phases);
             for (int safe = 0; safe <= phases; safe++) {
+                GreenMachines machine = new GreenMachines();
+                machine.clash(4, 5);
                 for (int phase = 0; phase < phases; phase++) {
-                    machine.change(phase, phase < safe ? 0b011111 : 0b110000, 3);
+                    machine.addPhase(phase < safe ? 0b011111 : 0b110000, 3);
                 }
                 check(machine, "safe " + safe + " of " + phases, 2, "");
             }
         }
     }
 
+    /** A check takes most of a machine's 512 calls: each state is reached anew. */
     private static void checkLongRun() {
+        for (int steps = 0; steps <= 100; steps++) {
+            check(ran(steps, 0), "step " + steps, 2, "");
+        }
+        for (int undone = 1; undone <= 6; undone++) {
+            check(ran(50, undone), "undo " + undone, 2, "");
+        }
+    }
+
+    private static GreenMachines ran(int steps, int undone) {
         GreenMachines machine = Due.built("p0*2;p12*1;p3*3;r0>1?12;r0>2?3;r1>2?3;r1>0;r2>0;x13");
-        for (int step = 0; step < 100; step++) {
+        for (int step = 0; step < steps; step++) {
             machine.come(step * step % 6);
             machine.run(1 + step % 4);
-            check(machine, "step " + step, 2, "");
         }
-        for (int step = 0; step < 6; step++) {
+        for (int call = 0; call < undone; call++) {
             machine.undo();
-            check(machine, "undo " + step, 2, "");
         }
+        return machine;
     }
 
     private static void check(GreenMachines machine, String name, int clearing, String buffer) {

@@ -5,10 +5,21 @@ final class Due {
         long answer();
     }
 
+    /** A call of the face with one argument left open. */
+    interface CallWith {
+        long answer(int number);
+    }
+
     private static int wrong = 0;
     private static int asked = 0;
+    private static String sentence = "";
 
     private Due() {
+    }
+
+    /** The document's words by which the next answers are due; each wrong answer is told with them. */
+    static void says(String words) {
+        sentence = "[" + words + "] ";
     }
 
     static void same(String call, long got, long want) {
@@ -42,9 +53,22 @@ final class Due {
         }
     }
 
+    /**
+     * Each number out of the range is refused: those beside its ends, and those far away that shifts and
+     * casts would take for one within. It takes 24 of the machine's 512 calls.
+     */
+    static void outside(GreenMachines machine, String call, Class<? extends RuntimeException> want,
+            int least, int most, CallWith body) {
+        int[] numbers = {least - 1, most + 1, least - 64, most + 64, least - 65536, most + 65536,
+            Integer.MIN_VALUE, Integer.MAX_VALUE};
+        for (int number : numbers) {
+            thrown(machine, call + " with " + number, want, () -> body.answer(number));
+        }
+    }
+
     private static void tell(String text) {
         wrong++;
-        System.out.println(text);
+        System.out.println(sentence + text);
     }
 
     static void end() {
@@ -66,6 +90,18 @@ final class Due {
         GreenMachines machine = new GreenMachines();
         type(machine, text);
         machine.build();
+        return machine;
+    }
+
+    /** A new machine, built from a text, without a saved state. */
+    static GreenMachines builtUnsaved(String text) {
+        GreenMachines machine = built(text);
+        for (int call = 0; call < 6; call++) {
+            machine.set(2);
+        }
+        for (int call = 0; call < 6; call++) {
+            machine.undo();
+        }
         return machine;
     }
 }

@@ -4,16 +4,21 @@ import java.lang.reflect.Modifier;
 
 /** Long runs of calls, the same on the program and on the naive crossing: all answers are the same. */
 final class NaiveTest {
-    private static final int RUNS = 120;
-    private static final int CALLS = 300;
+    private static final int RUNS = 200;
+    /** What calls of an object answer behind these is free. */
+    private static final int PROMISED_CALLS = 512;
+    /** A text up to the 61st character, which is refused, with its clearBuffer(), and a digest(). */
+    private static final int MOST_CALLS_OF_A_STEP = 63;
     private static final int DIGEST_EACH = 9;
     private static final int TEXT = 11;
+    private static final int DIGEST = 26;
     private static final String[] CALLS_BY_KIND = {"clash", "addPhase", "addRule", "dropRule", "change", "set",
         "come", "run", "run", "start", "append", "a whole text", "firstError", "build", "undo", "phase", "rule",
         "direction", "count", "starves", "rounds", "waitFor", "waitFor", "slowest", "remedy", "safeShare",
         "digest", "clearBuffer", "come", "come", "build"};
 
     private long seed;
+    private int done = 0;
 
     private NaiveTest(long seed) {
         this.seed = seed;
@@ -43,14 +48,14 @@ final class NaiveTest {
         if (below(3) > 0) {
             furnish(machine, naive, run);
         }
-        for (int call = 0; call < CALLS; call++) {
+        for (int step = 0; done + MOST_CALLS_OF_A_STEP <= PROMISED_CALLS; step++) {
             int kind = below(CALLS_BY_KIND.length);
-            int[] numbers = numbers(kind, machine.count(0));
-            String name = "run " + run + ", call " + call + " of kind " + kind + " with "
+            int[] numbers = numbers(kind, naive.count(0));
+            String name = "run " + run + ", step " + step + " of kind " + kind + " with "
                     + numbers[0] + ", " + numbers[1] + ", " + numbers[2];
             Due.same(name, answerOf(() -> ask(machine, kind, numbers)), answerOf(() -> ask(naive, kind, numbers)));
-            if (call % DIGEST_EACH == 0) {
-                Due.same(name + ", digest()", machine.digest(), naive.digest());
+            if (step % DIGEST_EACH == 0) {
+                Due.same(name + ", digest()", ask(machine, DIGEST, numbers), ask(naive, DIGEST, numbers));
             }
         }
     }
@@ -136,7 +141,7 @@ final class NaiveTest {
         return text.toString();
     }
 
-    private static long ask(Object x, int kind, int[] numbers) {
+    private long ask(Object x, int kind, int[] numbers) {
         if (kind == TEXT) {
             long hash = call(x, "clearBuffer", numbers);
             for (char sign : text(numbers).toCharArray()) {
@@ -148,7 +153,8 @@ final class NaiveTest {
     }
 
     /** Both classes have the face's methods by the same names; a boolean is told by the last number. */
-    private static long call(Object x, String name, int[] numbers) {
+    private long call(Object x, String name, int[] numbers) {
+        done += x instanceof GreenMachines ? 1 : 0;
         try {
             for (Method method : x.getClass().getDeclaredMethods()) {
                 boolean taken = !Modifier.isPrivate(method.getModifiers()) && method.getName().equals(name);
