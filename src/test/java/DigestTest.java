@@ -20,7 +20,11 @@ final class DigestTest {
 
     private static void checkBuilt() {
         check(Due.built("p05*9;p*1;p012*4;r0>1;r0>2?05;x01;r2>0?4;r1>2?13"), "built", 2, "");
-        check(Due.built("p5*1;p*1;p1*1;p2*1;p3*1;p4*1;p0*1;p01*9;r0>1;r1>2;r2>0"), "built of 8", 2, "");
+        GreenMachines round = Due.built("p5*1;p*1;p1*1;p2*1;p3*1;p4*1;p0*1;p01*9;x01");
+        for (int phase = 0; phase < 8; phase++) {
+            round.addRule(phase, (phase + 1) % 8, phase == 6 ? 1 : 0);
+        }
+        check(round, "a round of 8", 2, "");
     }
 
     private static void checkShares() {

@@ -366,6 +366,8 @@ final class EdgesOfLooksTest {
     private static void countStarving() {
         Due.says("Promise 19: 10: directions that can starve (of those that are a green of some phase or not)");
         Due.same("without phases", new GreenMachines().count(10), 0);
+        Due.same("that are a green of no phase", Due.built("p*1").count(10), 63);
+        Due.same("one of them a green", Due.built("p0*1;p5*1").count(10), 0b111110);
         GreenMachines machine = Due.built("p*1;p012345*1;p024*1");
         Due.same("in a phase without greens", machine.count(10), 63);
         machine.start(1);

@@ -114,6 +114,15 @@ final class EdgesOfProofsTest {
             Due.same("waitFor(1, 0, false) with " + texts[text], machine.waitFor(1, 0, false), shortest[text]);
             Due.same("starves(1, 0) with " + texts[text], machine.starves(1, 0), 1);
         }
+        for (int asker = 0; asker < 6; asker++) {
+            GreenMachines first = Due.built("p0*1;p*1;p1*1");
+            first.addRule(0, 2, 1 << asker);
+            Due.same("waitFor(1, 0, false), asked by " + asker + " as the first", first.waitFor(1, 0, false), 3);
+            first.dropRule(0);
+            first.addRule(0, 1, 0b111101 & ~(1 << asker));
+            first.addRule(0, 2, 0b111101);
+            Due.same("waitFor(1, 0, false), behind all but " + asker, first.waitFor(1, 0, false), asker == 1 ? NONE : 3);
+        }
     }
 
     private static void stayingForEver() {

@@ -1,13 +1,11 @@
-/** Promise 15: undo. */
+/** Promise 15: undo, in the midst of other calls; EdgesOfUndoTest has its edges. */
 final class UndoTest {
     private static final Class<IllegalStateException> STATE = IllegalStateException.class;
 
     public static void main(String[] args) {
         sixStates();
         allIsRestored();
-        rulesAreRestored();
         clearingIsRestored();
-        whatIsNotSaved();
         Due.end();
     }
 
@@ -92,17 +90,6 @@ final class UndoTest {
         }
     }
 
-    private static void rulesAreRestored() {
-        GreenMachines machine = Due.built("p0*1;p1*1;p2*1;r0>1?3");
-        machine.dropRule(0);
-        machine.addRule(0, 2, 32);
-        Due.same("the new goal", machine.rule(0, 0, 0), 2);
-        machine.undo();
-        machine.undo();
-        Due.same("the goal from before", machine.rule(0, 0, 0), 1);
-        Due.same("the askers from before", machine.rule(0, 0, 1), 8);
-    }
-
     private static void clearingIsRestored() {
         GreenMachines machine = Due.built("p01*1;p03*1;p3*1;r0>1;r1>2");
         machine.run(1);
@@ -111,30 +98,5 @@ final class UndoTest {
         Due.same("clears from 1 to 2, with the greens", machine.count(4), 0b001000);
         machine.undo();
         Due.same("clears from 0 to 1 again, with the greens", machine.count(4), 0b000001);
-    }
-
-    private static void whatIsNotSaved() {
-        GreenMachines machine = new GreenMachines();
-        machine.addPhase(1, 1);
-        Due.type(machine, "p1");
-        Due.same("undo() leaves the buffer", machine.undo(), 0);
-        Due.same("its length", machine.clearBuffer(), 2);
-        machine.addPhase(1, 1);
-        machine.phase(0, 0);
-        machine.direction(0, 0);
-        machine.count(0);
-        machine.starves(0, 0);
-        machine.rounds(0);
-        machine.waitFor(0, 0, true);
-        machine.slowest();
-        machine.remedy(0, 0);
-        machine.safeShare();
-        machine.digest();
-        machine.firstError();
-        Due.same("looks are not saved", machine.count(11), 1);
-        Due.thrown(machine, "addPhase(64, 1)", IllegalArgumentException.class, () -> machine.addPhase(64, 1));
-        Due.same("a call that throws is not saved", machine.count(11), 1);
-        Due.same("come() where somebody waits", machine.come(0) + machine.come(0), 0);
-        Due.same("is saved, though it changes nothing", machine.count(11), 3);
     }
 }
